@@ -253,6 +253,7 @@ public final class PromiseTest {
         Check.due("5 at the end", 9, () -> b.columnOf(0));
         Check.due("5 beyond the end", 0, b::turn);
         Check.due("5 still at the end", 9, () -> b.columnOf(0));
+        borders();
         LineBattle queue = new LineBattle();
         queue.addLine(1, 2, 'p', 10);
         queue.setOrder(0, 'a');
@@ -265,6 +266,21 @@ public final class PromiseTest {
         queue.setOrder(0, 'a');
         queue.turn();
         Check.due("5 in the order of their numbers", ".......PN.", () -> lane(queue, 2));
+    }
+
+    /** The last cell of a lane has no next one: neither the first of the lane behind it, nor one of an enemy. */
+    private static void borders() {
+        LineBattle b = new LineBattle();
+        b.addLine(0, 0, 'p', 40);
+        b.addLine(1, 1, 'p', 40);
+        b.setOrder(0, 'c');
+        b.setOrder(1, 'c');
+        turns(b, 5);
+        Check.due("5 side 0 at its end", ".........p", () -> lane(b, 0));
+        Check.due("5 side 1 at its end", "P.........", () -> lane(b, 1));
+        Check.due("5 no fight over the border", 0, b::turn);
+        noEnemy("over the border", b, 0);
+        noEnemy("over the border of side 1", b, 1);
     }
 
     private static void charge() {
@@ -846,7 +862,8 @@ public final class PromiseTest {
             "line a", "5", "line 0 b", "7", "order 0", "7", "order 0 ", "8", "order 0 p", "8", "order 012", "8",
             "order 0h", "7", "order 10x", "8", "rally", "5", "rally ", "6", "rally x", "6", "rally 0 ", "7",
             "rally 123", "8", "rally 0x", "7", "rally 0;", "8", "Turn", "0", "order 0 h;o", "11", "order 0 hh", "9",
-            "line -1", "5", "line  p 1", "5", "line 0  p 1", "7", "order  h", "6", "line 0 0  1", "9", "order 0  ", "8"};
+            "line -1", "5", "line  p 1", "5", "line 0  p 1", "7", "order  h", "6", "line 0 0  1", "9",
+            "order 0  ", "8"};
         for (int i = 0; i < texts.length; i += 2) {
             String text = texts[i];
             LineBattle b = rout();
@@ -929,6 +946,11 @@ public final class PromiseTest {
         rout.undo();
         Check.due("43 routed turns", 1, () -> rout.routedTurns(0));
         LineBattle order = meeting();
+        order.turn();
+        order.undo();
+        Check.due("43 back in the first cell", 0, () -> order.lineIn(0, 0));
+        Check.due("43 back in the last cell", 1, () -> order.lineIn(0, 9));
+        Check.thrown("43 the next cell is empty", NO_ELEMENT, () -> order.lineIn(0, 1));
         order.undo();
         Check.due("43 order", 'h', () -> order.orderOf(1));
         order.undo();
@@ -994,5 +1016,25 @@ public final class PromiseTest {
         c.turn();
         Check.due("43 undo after restore", 0, c::undo);
         Check.due("43 to the snapshot", 6, c::turnCount);
+        otherLineInstead();
+    }
+
+    /** The snapshot's line comes back where another was added instead. */
+    private static void otherLineInstead() {
+        LineBattle b = new LineBattle();
+        b.addLine(0, 0, 'p', 7);
+        b.setOrder(0, 'c');
+        b.save();
+        b.undo();
+        b.undo();
+        b.addLine(1, 2, 's', 9);
+        Check.due("45 one line", 1, b::restore);
+        Check.due("45 its side", 0, () -> b.sideOf(0));
+        Check.due("45 its lane", 0, () -> b.laneOf(0));
+        Check.due("45 its kind", 'p', () -> b.kindOf(0));
+        Check.due("45 its order", 'c', () -> b.orderOf(0));
+        dueLine("45 the line", b, 0, 0, 7, 10);
+        Check.due("45 its cell", 0, () -> b.lineIn(0, 0));
+        Check.thrown("45 the other's cell", NO_ELEMENT, () -> b.lineIn(2, 9));
     }
 }
