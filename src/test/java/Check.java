@@ -4,6 +4,7 @@ import java.util.Objects;
 final class Check {
     private static int wrong = 0;
     private static int checked = 0;
+    private static String heading = "";
 
     interface Call {
         Object answer();
@@ -12,12 +13,21 @@ final class Check {
     private Check() {
     }
 
+    /** What stands in front of the text of each check from now on. */
+    static void under(String newHeading) {
+        heading = newHeading;
+    }
+
+    static int count() {
+        return checked;
+    }
+
     static void due(String what, Object want, Call call) {
         checked++;
         String got = outcome(call);
         if (!Objects.equals(got, String.valueOf(want))) {
             wrong++;
-            System.out.println(what + ": answered " + got + ", due is " + want);
+            System.out.println(heading + what + ": answered " + got + ", due is " + want);
         }
     }
 

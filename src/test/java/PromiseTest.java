@@ -35,60 +35,6 @@ public final class PromiseTest {
         routedInTurn();
     }
 
-    // The scenes
-
-    private static LineBattle turns(LineBattle b, int turns) {
-        for (int i = 0; i < turns; i++) {
-            b.turn();
-        }
-        return b;
-    }
-
-    /** Nutmeg 60 and clove 60, both advancing in lane 0; in turn 5 they meet at columns 4 and 5 and rout each other. */
-    private static LineBattle meeting() {
-        LineBattle b = new LineBattle();
-        b.addLine(0, 0, 'n', 60);
-        b.addLine(1, 0, 'c', 60);
-        b.setOrder(0, 'a');
-        b.setOrder(1, 'a');
-        return b;
-    }
-
-    private static LineBattle rout() {
-        return turns(meeting(), 5);
-    }
-
-    /** A strong clove of side 0 has killed a line of side 1; line 0 is at column 8, line 1 has fallen. */
-    private static LineBattle fall() {
-        LineBattle b = new LineBattle();
-        b.addLine(0, 1, 'c', 99);
-        b.addLine(1, 1, 's', 5);
-        b.setOrder(0, 'c');
-        return turns(b, 4);
-    }
-
-    private static int type(LineBattle b, String text) {
-        int length = 0;
-        for (int i = 0; i < text.length(); i++) {
-            length = b.type(text.charAt(i));
-        }
-        return length;
-    }
-
-    private static int run(LineBattle b, String text) {
-        type(b, text);
-        return b.execute();
-    }
-
-    private static String lane(LineBattle b, int lane) {
-        StringBuilder sb = new StringBuilder();
-        int length = b.writeLane(lane);
-        for (int i = 0; i < length; i++) {
-            sb.append(b.writtenAt(i));
-        }
-        return sb.toString();
-    }
-
     private static void dueLine(String what, LineBattle b, int line, int column, int strength, int morale) {
         Check.due(what + " column", column, () -> b.columnOf(line));
         Check.due(what + " strength", strength, () -> b.strengthOf(line));
@@ -107,7 +53,7 @@ public final class PromiseTest {
         Check.thrown("1 written text", BOUNDS, () -> b.writtenAt(0));
         for (int lane = 0; lane < 3; lane++) {
             int l = lane;
-            Check.due("1 lane", "..........", () -> lane(b, l));
+            Check.due("1 lane", "..........", () -> Scene.lane(b, l));
         }
         Check.thrown("1 undo", STATE, b::undo);
         Check.thrown("1 restore", STATE, b::restore);
@@ -127,8 +73,8 @@ public final class PromiseTest {
         Check.due("2 second", 1, () -> b.addLine(1, 0, 'n', 99));
         Check.due("2 third", 2, () -> b.addLine(0, 2, 'c', 50));
         Check.due("2 fourth", 3, () -> b.addLine(1, 2, 's', 50));
-        Check.due("2 lane 0", "p........N", () -> lane(b, 0));
-        Check.due("2 lane 2", "c........S", () -> lane(b, 2));
+        Check.due("2 lane 0", "p........N", () -> Scene.lane(b, 0));
+        Check.due("2 lane 2", "c........S", () -> Scene.lane(b, 2));
         Check.due("2 order", 'h', () -> b.orderOf(1));
         Check.due("2 stands", true, () -> b.isStanding(1));
         dueLine("2 line 0", b, 0, 0, 1, 10);
@@ -144,7 +90,7 @@ public final class PromiseTest {
         LineBattle b = new LineBattle();
         b.addLine(0, 1, 'p', 9);
         b.setOrder(0, 'c');
-        turns(b, 5);
+        Scene.turns(b, 5);
         Check.due("2 in the enemy's first column", 9, () -> b.columnOf(0));
         Check.thrown("2 taken by the other side", UNSUPPORTED, () -> b.addLine(1, 1, 'p', 9));
         Check.due("2 own first column is free", 1, () -> b.addLine(0, 1, 'p', 9));
@@ -161,7 +107,7 @@ public final class PromiseTest {
                 b.turn();
             }
         }
-        Check.due("2 lane of four", ".ssss.....", () -> lane(b, 0));
+        Check.due("2 lane of four", ".ssss.....", () -> Scene.lane(b, 0));
         Check.thrown("2 a thirteenth", STATE, () -> b.addLine(0, 0, 's', 1));
         Check.thrown("2 a thirteenth, wrong", ARGUMENT, () -> b.addLine(0, 0, 'x', 1));
         b.undo();
@@ -171,7 +117,7 @@ public final class PromiseTest {
     }
 
     private static void setOrder() {
-        LineBattle b = rout();
+        LineBattle b = Scene.rout();
         b.addLine(0, 2, 'p', 9);
         for (int n : NO_NUMBERS) {
             Check.thrown("3 no line", BOUNDS, () -> b.setOrder(n, 'h'));
@@ -188,13 +134,13 @@ public final class PromiseTest {
         Check.due("3 the order before it is the same", 'c', () -> b.orderOf(2));
         Check.due("3 undone again", 6, b::undo);
         Check.due("3 the order before", 'a', () -> b.orderOf(2));
-        LineBattle fallen = fall();
+        LineBattle fallen = Scene.fall();
         Check.thrown("3 fallen", STATE, () -> fallen.setOrder(1, 'h'));
         Check.thrown("3 fallen, no order", ARGUMENT, () -> fallen.setOrder(1, 'x'));
     }
 
     private static void rally() {
-        LineBattle b = rout();
+        LineBattle b = Scene.rout();
         for (int n : NO_NUMBERS) {
             Check.thrown("4 no line", BOUNDS, () -> b.rally(n));
         }
@@ -207,7 +153,7 @@ public final class PromiseTest {
         Check.thrown("4 stands already", STATE, () -> b.rally(0));
         Check.due("4 morale 3 and 6", 9, () -> b.rally(1));
         Check.due("4 jar of side 1", 2, () -> b.jarsOf(1));
-        LineBattle fallen = fall();
+        LineBattle fallen = Scene.fall();
         Check.thrown("4 fallen", STATE, () -> fallen.rally(1));
         lowRally();
     }
@@ -222,7 +168,7 @@ public final class PromiseTest {
         for (int i = 0; i < 4; i++) {
             b.setOrder(i, 'a');
         }
-        turns(b, 5);
+        Scene.turns(b, 5);
         Check.due("4 routed", 1, () -> b.moraleOf(1));
         Check.due("4 one jar", 7, () -> b.rally(1));
         Check.due("4 still routed", true, () -> b.isRouted(1));
@@ -242,14 +188,14 @@ public final class PromiseTest {
         Check.due("5 empty", 0, b::turn);
         Check.due("5 counted", 1, b::turnCount);
         b.addLine(0, 0, 'p', 10);
-        turns(b, 10);
+        Scene.turns(b, 10);
         dueLine("5 hold up to 20", b, 0, 0, 10, 20);
         b.turn();
         dueLine("5 hold at 20", b, 0, 0, 10, 20);
         b.setOrder(0, 'a');
         b.turn();
         dueLine("5 advance", b, 0, 1, 10, 20);
-        turns(b, 8);
+        Scene.turns(b, 8);
         Check.due("5 at the end", 9, () -> b.columnOf(0));
         Check.due("5 beyond the end", 0, b::turn);
         Check.due("5 still at the end", 9, () -> b.columnOf(0));
@@ -262,10 +208,10 @@ public final class PromiseTest {
         queue.setOrder(1, 'c');
         queue.setOrder(0, 'h');
         queue.turn();
-        Check.due("5 own line in the way", "........PN", () -> lane(queue, 2));
+        Check.due("5 own line in the way", "........PN", () -> Scene.lane(queue, 2));
         queue.setOrder(0, 'a');
         queue.turn();
-        Check.due("5 in the order of their numbers", ".......PN.", () -> lane(queue, 2));
+        Check.due("5 in the order of their numbers", ".......PN.", () -> Scene.lane(queue, 2));
     }
 
     /** The last cell of a lane has no next one: neither the first of the lane behind it, nor one of an enemy. */
@@ -275,9 +221,9 @@ public final class PromiseTest {
         b.addLine(1, 1, 'p', 40);
         b.setOrder(0, 'c');
         b.setOrder(1, 'c');
-        turns(b, 5);
-        Check.due("5 side 0 at its end", ".........p", () -> lane(b, 0));
-        Check.due("5 side 1 at its end", "P.........", () -> lane(b, 1));
+        Scene.turns(b, 5);
+        Check.due("5 side 0 at its end", ".........p", () -> Scene.lane(b, 0));
+        Check.due("5 side 1 at its end", "P.........", () -> Scene.lane(b, 1));
         Check.due("5 no fight over the border", 0, b::turn);
         noEnemy("over the border", b, 0);
         noEnemy("over the border of side 1", b, 1);
@@ -288,7 +234,7 @@ public final class PromiseTest {
         b.addLine(0, 0, 'p', 40);
         b.addLine(1, 0, 's', 99);
         b.setOrder(0, 'c');
-        turns(b, 3);
+        Scene.turns(b, 3);
         dueLine("5 charge by two", b, 0, 6, 40, 10);
         Check.due("5 charge and fight", 1, b::turn);
         // 40 / 4 + 6 = 16 and 5; the counter is 83 / 6 = 13 and 4; then salt holds.
@@ -302,7 +248,7 @@ public final class PromiseTest {
         one.addLine(0, 0, 'p', 40);
         one.addLine(1, 0, 's', 99);
         one.setOrder(0, 'a');
-        turns(one, 7);
+        Scene.turns(one, 7);
         one.setOrder(0, 'c');
         Check.due("5 charge by one", 1, one::turn);
         dueLine("5 pepper charging by one", one, 0, 8, 27, 6);
@@ -310,7 +256,7 @@ public final class PromiseTest {
         advance.addLine(0, 0, 'p', 40);
         advance.addLine(1, 0, 's', 99);
         advance.setOrder(0, 'a');
-        turns(advance, 7);
+        Scene.turns(advance, 7);
         Check.due("5 an advance does not fight when it moved", 0, advance::turn);
         Check.due("5 an advance fights", 1, advance::turn);
         // Without charging: 10 and 3 of 18, then held; the counter is 89 / 6 = 14 and 4.
@@ -319,12 +265,12 @@ public final class PromiseTest {
     }
 
     private static void fightInTurn() {
-        LineBattle b = meeting();
-        turns(b, 4);
+        LineBattle b = Scene.meeting();
+        Scene.turns(b, 4);
         Check.due("5 two fights", 2, b::turn);
         dueLine("5 nutmeg", b, 0, 4, 41, 4);
         dueLine("5 clove", b, 1, 5, 36, 3);
-        LineBattle fallen = fall();
+        LineBattle fallen = Scene.fall();
         // 99 / 3 = 33 against 5: strength 0, morale 13 - 11, and no counter.
         dueLine("5 the killer", fallen, 0, 8, 99, 10);
         Check.due("5 the killed", 0, () -> fallen.strengthOf(1));
@@ -332,34 +278,26 @@ public final class PromiseTest {
         Check.due("5 the killed does nothing", 0, fallen::turn);
         Check.due("5 its morale stays", 2, () -> fallen.moraleOf(1));
         Check.due("5 on to its cell", 9, () -> fallen.columnOf(0));
-        LineBattle weak = attackerFalls();
-        Check.due("5 the attacker falls by the counter", ".........N", () -> lane(weak, 1));
+        LineBattle weak = Scene.attackerFalls();
+        Check.due("5 the attacker falls by the counter", ".........N", () -> Scene.lane(weak, 1));
         Check.due("5 its morale after 24", 2, () -> weak.moraleOf(0));
         moraleOfFive();
         supportInFight();
     }
 
-    /** A morale of 5 still stands; rout() has a line that is routed with 4. */
+    /** A morale of 5 still stands; Scene.rout() has a line that is routed with 4. */
     private static void moraleOfFive() {
         LineBattle b = new LineBattle();
         b.addLine(0, 0, 'c', 46);
         b.addLine(1, 0, 's', 99);
         b.setOrder(0, 'a');
         b.setOrder(1, 'a');
-        Check.due("5 the salt fights, too", 2, () -> turns(b, 5).fightCount());
+        Check.due("5 the salt fights, too", 2, () -> Scene.turns(b, 5).fightCount());
         // Clove: 15 and 5 of 10; the counter is 84 / 6 = 14 and 4. Salt: 15 and 5 of 6; the counter is 17 / 10 = 1.
         dueLine("5 salt of five", b, 1, 5, 83, 5);
         Check.due("5 salt of five stands", true, () -> b.isStanding(1));
         dueLine("5 clove of one", b, 0, 4, 17, 1);
         Check.due("5 clove of one is routed", true, () -> b.isRouted(0));
-    }
-
-    private static LineBattle attackerFalls() {
-        LineBattle b = new LineBattle();
-        b.addLine(0, 1, 'p', 3);
-        b.addLine(1, 1, 'n', 99);
-        b.setOrder(0, 'a');
-        return turns(b, 9);
     }
 
     private static void supportInFight() {
@@ -371,7 +309,7 @@ public final class PromiseTest {
         for (int i = 0; i < 3; i++) {
             b.setOrder(i, 'a');
         }
-        turns(b, 8);
+        Scene.turns(b, 8);
         b.setOrder(0, 'h');
         b.setOrder(2, 'h');
         Check.due("5 supported", 2, () -> b.supportOf(1));
@@ -382,11 +320,11 @@ public final class PromiseTest {
     }
 
     private static void routedInTurn() {
-        LineBattle b = rout();
+        LineBattle b = Scene.rout();
         b.turn();
         dueLine("5 routed goes back", b, 0, 3, 41, 5);
         dueLine("5 routed of side 1 goes back", b, 1, 6, 36, 4);
-        turns(b, 3);
+        Scene.turns(b, 3);
         dueLine("5 bold again", b, 0, 0, 41, 8);
         Check.due("5 stands again", true, () -> b.isStanding(0));
         Check.due("5 holds", 'h', () -> b.orderOf(0));
@@ -395,15 +333,15 @@ public final class PromiseTest {
         b.turn();
         dueLine("5 routed at the border", b, 1, 9, 36, 8);
         dueLine("5 held then", b, 0, 0, 41, 9);
-        LineBattle blocked = meeting();
+        LineBattle blocked = Scene.meeting();
         blocked.turn();
         blocked.addLine(0, 0, 's', 20);
         blocked.setOrder(2, 'a');
-        turns(blocked, 4);
-        Check.due("5 line behind the routed", "...sn!C!....", () -> lane(blocked, 0));
+        Scene.turns(blocked, 4);
+        Check.due("5 line behind the routed", "...sn!C!....", () -> Scene.lane(blocked, 0));
         blocked.setOrder(2, 'h');
         blocked.turn();
-        Check.due("5 the routed is blocked", "...sn!.C!...", () -> lane(blocked, 0));
+        Check.due("5 the routed is blocked", "...sn!.C!...", () -> Scene.lane(blocked, 0));
         Check.due("5 blocked, but bolder", 5, () -> blocked.moraleOf(0));
         Check.due("5 blocked turn counts", 1, () -> blocked.routedTurns(0));
         routedIsFought();
@@ -411,7 +349,7 @@ public final class PromiseTest {
     }
 
     private static void routedIsFought() {
-        LineBattle b = rout();
+        LineBattle b = Scene.rout();
         b.rally(0);
         b.setOrder(0, 'a');
         Check.due("5 a routed enemy is fought", 1, b::turn);
@@ -428,7 +366,7 @@ public final class PromiseTest {
         b.addLine(1, 0, 's', 60);
         b.setOrder(0, 'a');
         b.setOrder(1, 'a');
-        turns(b, 5);
+        Scene.turns(b, 5);
         // 33 and 11 of 10: 0; the counter is 27 / 6 = 4 and 1; the routed line goes back with morale 1.
         dueLine("5 routed before it acts", b, 1, 6, 27, 1);
         dueLine("5 who routed it", b, 0, 4, 95, 9);
@@ -438,9 +376,9 @@ public final class PromiseTest {
     // Promises 6 to 17
 
     private static void lines() {
-        LineBattle b = rout();
+        LineBattle b = Scene.rout();
         b.addLine(1, 2, 's', 7);
-        LineBattle fallen = fall();
+        LineBattle fallen = Scene.fall();
         Check.due("6 lines", 3, b::lineCount);
         Check.due("6 the fallen count", 2, fallen::lineCount);
         Check.due("7 side 0", 0, () -> b.sideOf(0));
@@ -475,7 +413,7 @@ public final class PromiseTest {
         Check.due("15 fallen", false, () -> fallen.isRouted(1));
         Check.due("16 not yet acted", 0, () -> b.routedTurns(0));
         Check.due("16 never routed", 0, () -> b.routedTurns(2));
-        LineBattle later = turns(rout(), 6);
+        LineBattle later = Scene.turns(Scene.rout(), 6);
         Check.due("16 until it stood again", 4, () -> later.routedTurns(0));
         Check.due("16 the longer rout", 5, () -> later.routedTurns(1));
     }
@@ -528,13 +466,13 @@ public final class PromiseTest {
             Check.due("18 " + (char) row[0] + row[1], row[2], () -> b.attackOf(0));
             Check.due("19 " + (char) row[0] + row[1], row[3], () -> b.counterOf(0));
         }
-        LineBattle fallen = fall();
+        LineBattle fallen = Scene.fall();
         Check.due("18 fallen", 1, () -> fallen.attackOf(1));
         Check.due("19 fallen", 0, () -> fallen.counterOf(1));
         support();
         enemies();
-        Check.due("24 fights", 2, () -> rout().fightCount());
-        Check.due("24 no fights more", 2, () -> turns(rout(), 3).fightCount());
+        Check.due("24 fights", 2, () -> Scene.rout().fightCount());
+        Check.due("24 no fights more", 2, () -> Scene.turns(Scene.rout(), 3).fightCount());
         turnsUntilFight();
     }
 
@@ -556,19 +494,19 @@ public final class PromiseTest {
         LineBattle enemies = new LineBattle();
         enemies.addLine(0, 0, 'p', 9);
         enemies.setOrder(0, 'c');
-        turns(enemies, 5);
+        Scene.turns(enemies, 5);
         enemies.addLine(1, 1, 'p', 9);
         dueSupport("not by an enemy", enemies, 1, 0);
-        LineBattle routed = meeting();
+        LineBattle routed = Scene.meeting();
         routed.addLine(0, 1, 's', 9);
         routed.setOrder(2, 'a');
-        turns(routed, 3);
+        Scene.turns(routed, 3);
         routed.setOrder(2, 'h');
-        turns(routed, 3);
-        Check.due("20 beside the routed", "...n!..C!...", () -> lane(routed, 0));
+        Scene.turns(routed, 3);
+        Check.due("20 beside the routed", "...n!..C!...", () -> Scene.lane(routed, 0));
         dueSupport("a routed line is supported", routed, 0, 1);
         dueSupport("a routed line does not support", routed, 2, 0);
-        LineBattle fallen = fall();
+        LineBattle fallen = Scene.fall();
         Check.thrown("20 fallen", NO_ELEMENT, () -> fallen.supportOf(1));
         Check.thrown("21 fallen", NO_ELEMENT, () -> fallen.supportByLines(1));
         fallen.addLine(1, 0, 'p', 9);
@@ -581,7 +519,7 @@ public final class PromiseTest {
     }
 
     private static void enemies() {
-        LineBattle b = meeting();
+        LineBattle b = Scene.meeting();
         b.addLine(0, 1, 'p', 9);
         b.addLine(1, 2, 'p', 9);
         b.turn();
@@ -593,9 +531,9 @@ public final class PromiseTest {
         dueEnemy("not hidden by the own line of side 1", b, 5, 0);
         noEnemy("in this lane", b, 2);
         noEnemy("in this lane of side 1", b, 3);
-        dueEnemy("routed", rout(), 0, 1);
-        dueEnemy("of a routed line", rout(), 1, 0);
-        LineBattle fallen = fall();
+        dueEnemy("routed", Scene.rout(), 0, 1);
+        dueEnemy("of a routed line", Scene.rout(), 1, 0);
+        LineBattle fallen = Scene.fall();
         noEnemy("but a fallen one", fallen, 0);
         noEnemy("for the fallen", fallen, 1);
         fallen.turn();
@@ -605,7 +543,7 @@ public final class PromiseTest {
         LineBattle behind = new LineBattle();
         behind.addLine(0, 0, 'p', 9);
         behind.setOrder(0, 'c');
-        turns(behind, 4);
+        Scene.turns(behind, 4);
         behind.setOrder(0, 'h');
         behind.addLine(1, 0, 'p', 9);
         dueEnemy("next", behind, 1, 0);
@@ -629,20 +567,20 @@ public final class PromiseTest {
         Check.thrown("25 both hold", NO_ELEMENT, b::turnsUntilFight);
         b.setOrder(0, 'a');
         Check.due("25 eight cells", 9, b::turnsUntilFight);
-        Check.due("25 nothing changed", "p........P", () -> lane(b, 0));
+        Check.due("25 nothing changed", "p........P", () -> Scene.lane(b, 0));
         Check.due("25 no turn passed", 0, b::turnCount);
         Check.due("25 no fight counted", 0, b::fightCount);
         Check.due("25 morale", 10, () -> b.moraleOf(1));
         b.setOrder(0, 'c');
         Check.due("25 charge", 4, b::turnsUntilFight);
-        turns(b, 3);
+        Scene.turns(b, 3);
         Check.due("25 next", 1, b::turnsUntilFight);
         Check.due("25 right", 1, b::turn);
         Check.due("25 the fight is a modification, the question is none", 7, b::undo);
         Check.due("25 before the fight", 0, b::fightCount);
-        LineBattle afterRout = rout();
+        LineBattle afterRout = Scene.rout();
         Check.thrown("25 both stand again and hold", NO_ELEMENT, afterRout::turnsUntilFight);
-        LineBattle far = meeting();
+        LineBattle far = Scene.meeting();
         far.setOrder(1, 'h');
         far.addLine(0, 1, 'p', 1);
         Check.due("25 meeting one", 9, far::turnsUntilFight);
@@ -667,7 +605,7 @@ public final class PromiseTest {
     // Promises 26 to 33
 
     private static void sides() {
-        LineBattle b = rout();
+        LineBattle b = Scene.rout();
         for (int wrong : new int[] {-1, 2, Integer.MIN_VALUE, Integer.MAX_VALUE}) {
             Check.thrown("26", ARGUMENT, () -> b.jarsOf(wrong));
             Check.thrown("27", ARGUMENT, () -> b.strengthOfSide(wrong));
@@ -683,16 +621,16 @@ public final class PromiseTest {
         b.addLine(1, 1, 'p', 8);
         dueStrength("27 and 28", b, 0, 46);
         dueStrength("27 and 28", b, 1, 44);
-        dueStrength("27 and 28 fallen", fall(), 0, 99);
-        dueStrength("27 and 28 fallen", fall(), 1, 0);
+        dueStrength("27 and 28 fallen", Scene.fall(), 0, 99);
+        dueStrength("27 and 28 fallen", Scene.fall(), 1, 0);
         dueStrength("27 and 28 empty", new LineBattle(), 1, 0);
         Check.due("29 none", 0, () -> b.fallenOf(1));
-        Check.due("29 routed", 0, () -> rout().fallenOf(0));
-        Check.due("29 fallen", 1, () -> fall().fallenOf(1));
-        Check.due("29 of the other side", 0, () -> fall().fallenOf(0));
+        Check.due("29 routed", 0, () -> Scene.rout().fallenOf(0));
+        Check.due("29 fallen", 1, () -> Scene.fall().fallenOf(1));
+        Check.due("29 of the other side", 0, () -> Scene.fall().fallenOf(0));
         fronts();
         ranks();
-        Check.due("33 turns", 5, () -> rout().turnCount());
+        Check.due("33 turns", 5, () -> Scene.rout().turnCount());
     }
 
     private static void dueStrength(String what, LineBattle b, int side, int want) {
@@ -701,7 +639,7 @@ public final class PromiseTest {
     }
 
     private static void fronts() {
-        LineBattle b = meeting();
+        LineBattle b = Scene.meeting();
         b.turn();
         b.addLine(0, 0, 's', 9);
         b.addLine(1, 0, 's', 9);
@@ -710,7 +648,7 @@ public final class PromiseTest {
         Check.thrown("30 no line", NO_ELEMENT, () -> b.frontOf(0, 1));
         Check.thrown("30 lane 3", ARGUMENT, () -> b.frontOf(0, 3));
         Check.thrown("30 lane -1", ARGUMENT, () -> b.frontOf(1, -1));
-        Check.due("30 routed", 4, () -> rout().frontOf(0, 0));
+        Check.due("30 routed", 4, () -> Scene.rout().frontOf(0, 0));
         LineBattle first = new LineBattle();
         first.addLine(0, 2, 's', 9);
         first.addLine(1, 1, 's', 9);
@@ -718,10 +656,10 @@ public final class PromiseTest {
         Check.due("30 column 9", 9, () -> first.frontOf(1, 1));
         first.setOrder(0, 'c');
         first.setOrder(1, 'c');
-        turns(first, 5);
+        Scene.turns(first, 5);
         Check.due("30 side 0 in column 9", 9, () -> first.frontOf(0, 2));
         Check.due("30 side 1 in column 0", 0, () -> first.frontOf(1, 1));
-        Check.thrown("30 fallen", NO_ELEMENT, () -> fall().frontOf(1, 1));
+        Check.thrown("30 fallen", NO_ELEMENT, () -> Scene.fall().frontOf(1, 1));
     }
 
     private static void ranks() {
@@ -746,15 +684,15 @@ public final class PromiseTest {
         for (int wrong : new int[] {-1, 4, 12, Integer.MIN_VALUE, Integer.MAX_VALUE}) {
             Check.thrown("32 no rank", NO_ELEMENT, () -> b.lineByStrength(wrong));
         }
-        Check.due("32 the fallen are last", 1, () -> fall().lineByStrength(1));
+        Check.due("32 the fallen are last", 1, () -> Scene.fall().lineByStrength(1));
     }
 
     // Promises 34 to 38
 
     private static void statistics() {
-        LineBattle b = rout();
+        LineBattle b = Scene.rout();
         Check.due("34 routed", 12, () -> b.writeLane(0));
-        Check.due("34 text", "....n!C!....", () -> lane(b, 0));
+        Check.due("34 text", "....n!C!....", () -> Scene.lane(b, 0));
         Check.due("35 last", '.', () -> b.writtenAt(11));
         for (int wrong : new int[] {-1, 12, 20, Integer.MIN_VALUE, Integer.MAX_VALUE}) {
             Check.thrown("35 no character", BOUNDS, () -> b.writtenAt(wrong));
@@ -775,8 +713,8 @@ public final class PromiseTest {
         all.addLine(1, 0, 'n', 9);
         all.addLine(0, 1, 'c', 9);
         all.addLine(1, 1, 's', 9);
-        Check.due("34 p and N", "p........N", () -> lane(all, 0));
-        Check.due("34 c and S", "c........S", () -> lane(all, 1));
+        Check.due("34 p and N", "p........N", () -> Scene.lane(all, 0));
+        Check.due("34 c and S", "c........S", () -> Scene.lane(all, 1));
         means();
         consistency();
     }
@@ -785,15 +723,15 @@ public final class PromiseTest {
         LineBattle b = new LineBattle();
         Check.thrown("36 empty", ARITHMETIC, b::meanMorale);
         Check.thrown("37 empty", ARITHMETIC, b::standingShare);
-        Check.due("36 routed", 3.5, () -> rout().meanMorale());
-        Check.due("37 routed", 0.0f, () -> rout().standingShare());
-        LineBattle three = rout();
+        Check.due("36 routed", 3.5, () -> Scene.rout().meanMorale());
+        Check.due("37 routed", 0.0f, () -> Scene.rout().standingShare());
+        LineBattle three = Scene.rout();
         three.addLine(0, 1, 'p', 9);
         Check.due("36 three", 17.0 / 3.0, three::meanMorale);
         Check.due("37 three", 1.0f / 3.0f, three::standingShare);
-        Check.due("36 without the fallen", 10.0, () -> fall().meanMorale());
-        Check.due("37 with the fallen", 0.5f, () -> fall().standingShare());
-        LineBattle weak = attackerFalls();
+        Check.due("36 without the fallen", 10.0, () -> Scene.fall().meanMorale());
+        Check.due("37 with the fallen", 0.5f, () -> Scene.fall().standingShare());
+        LineBattle weak = Scene.attackerFalls();
         Check.due("36 without the fallen of side 0", 19.0, weak::meanMorale);
         Check.due("28 without the fallen of side 0", 99, () -> weak.strengthByCells(1));
         Check.due("29 of side 0", 1, () -> weak.fallenOf(0));
@@ -801,9 +739,9 @@ public final class PromiseTest {
 
     private static void consistency() {
         Check.due("38 empty", true, () -> new LineBattle().isConsistent());
-        Check.due("38 rout", true, () -> rout().isConsistent());
-        Check.due("38 fall", true, () -> fall().isConsistent());
-        LineBattle undone = fall();
+        Check.due("38 rout", true, () -> Scene.rout().isConsistent());
+        Check.due("38 fall", true, () -> Scene.fall().isConsistent());
+        LineBattle undone = Scene.fall();
         undone.undo();
         Check.due("38 undone", true, undone::isConsistent);
         undone.save();
@@ -836,19 +774,19 @@ public final class PromiseTest {
 
     private static void execute() {
         LineBattle b = new LineBattle();
-        Check.due("40 two lines", 2, () -> run(b, "line 0 2 p 7;line 1 2 n 99"));
-        Check.due("40 lane", "p........N", () -> lane(b, 2));
+        Check.due("40 two lines", 2, () -> Scene.run(b, "line 0 2 p 7;line 1 2 n 99"));
+        Check.due("40 lane", "p........N", () -> Scene.lane(b, 2));
         Check.due("40 strength of one digit", 7, () -> b.strengthOf(0));
         Check.due("40 strength of two digits", 99, () -> b.strengthOf(1));
-        Check.due("40 order", 1, () -> run(b, "order 00 a"));
+        Check.due("40 order", 1, () -> Scene.run(b, "order 00 a"));
         Check.due("40 the order", 'a', () -> b.orderOf(0));
-        Check.due("40 with kinds", 2, () -> run(b, "line 0 0 c 01;line 0 1 s 10"));
-        Check.due("40 twelve", 12, () -> run(b, "turn;turn;turn;turn;turn;turn;turn;turn;turn;turn;turn;turn"));
+        Check.due("40 with kinds", 2, () -> Scene.run(b, "line 0 0 c 01;line 0 1 s 10"));
+        Check.due("40 twelve", 12, () -> Scene.run(b, "turn;turn;turn;turn;turn;turn;turn;turn;turn;turn;turn;turn"));
         Check.due("40 turns", 12, b::turnCount);
         Check.thrown("41 none", NO_ELEMENT, b::errorPosition);
         Check.thrown("42 none", NO_ELEMENT, b::failedCommand);
-        LineBattle routed = rout();
-        Check.due("40 rally", 2, () -> run(routed, "rally 0;rally 01"));
+        LineBattle routed = Scene.rout();
+        Check.due("40 rally", 2, () -> Scene.run(routed, "rally 0;rally 01"));
         Check.due("40 rallied", 10, () -> routed.moraleOf(0));
         Check.due("40 one modification", 7, routed::undo);
         Check.due("40 before it", 4, () -> routed.moraleOf(0));
@@ -866,26 +804,26 @@ public final class PromiseTest {
             "order 0  ", "8"};
         for (int i = 0; i < texts.length; i += 2) {
             String text = texts[i];
-            LineBattle b = rout();
-            Check.thrown("40 '" + text + "'", ARGUMENT, () -> run(b, text));
+            LineBattle b = Scene.rout();
+            Check.thrown("40 '" + text + "'", ARGUMENT, () -> Scene.run(b, text));
             Check.due("41 '" + text + "'", texts[i + 1], b::errorPosition);
             Check.thrown("42 '" + text + "'", NO_ELEMENT, b::failedCommand);
             Check.due("40 nothing done", 5, b::turnCount);
             Check.due("40 empty after '" + text + "'", 1, () -> b.type('t'));
         }
         LineBattle shorter = new LineBattle();
-        run(shorter, "turn;turn");
-        Check.thrown("40 nothing of the text before", ARGUMENT, () -> run(shorter, "turn;tur"));
+        Scene.run(shorter, "turn;turn");
+        Check.thrown("40 nothing of the text before", ARGUMENT, () -> Scene.run(shorter, "turn;tur"));
         Check.due("41 the end of the shorter text", 8, shorter::errorPosition);
         LineBattle kept = new LineBattle();
-        Check.thrown("41 first", ARGUMENT, () -> run(kept, "turn;tu"));
+        Check.thrown("41 first", ARGUMENT, () -> Scene.run(kept, "turn;tu"));
         kept.turn();
-        run(kept, "turn");
+        Scene.run(kept, "turn");
         Check.due("41 kept", 7, kept::errorPosition);
         Check.due("40 malformed as a whole", 2, kept::turnCount);
         kept.undo();
         Check.due("41 kept through undo", 7, kept::errorPosition);
-        Check.thrown("41 again", ARGUMENT, () -> run(kept, "ta"));
+        Check.thrown("41 again", ARGUMENT, () -> Scene.run(kept, "ta"));
         Check.due("41 the last", 1, kept::errorPosition);
     }
 
@@ -896,23 +834,23 @@ public final class PromiseTest {
             "line 0 0 p 7;rally 0", "1", "line 0 0 p 7;order 99 h", "1", "line 1 0 p 1;line 1 0 p 1;x", ""};
         for (int i = 0; i < texts.length - 2; i += 2) {
             String text = texts[i];
-            Check.thrown("40 '" + text + "'", STATE, () -> run(b, text));
+            Check.thrown("40 '" + text + "'", STATE, () -> Scene.run(b, text));
             Check.due("42 '" + text + "'", texts[i + 1], b::failedCommand);
             Check.due("40 taken back: lines", 0, b::lineCount);
             Check.due("40 taken back: turns", 0, b::turnCount);
-            Check.due("40 taken back: lane", "..........", () -> lane(b, 0));
+            Check.due("40 taken back: lane", "..........", () -> Scene.lane(b, 0));
         }
         Check.thrown("40 failing no modification", STATE, b::undo);
         Check.thrown("41 still none", NO_ELEMENT, b::errorPosition);
-        Check.thrown("40 malformed comes first", ARGUMENT, () -> run(b, texts[texts.length - 2]));
+        Check.thrown("40 malformed comes first", ARGUMENT, () -> Scene.run(b, texts[texts.length - 2]));
         Check.due("42 kept", 1, b::failedCommand);
         Check.due("40 empty after failing", 1, () -> {
-            Check.outcome(() -> run(b, "rally 7"));
+            Check.outcome(() -> Scene.run(b, "rally 7"));
             return b.type('t');
         });
         Check.due("42 the last", 0, b::failedCommand);
-        LineBattle full = rout();
-        Check.thrown("40 jars taken back", STATE, () -> run(full, "rally 0;rally 1;rally 0"));
+        LineBattle full = Scene.rout();
+        Check.thrown("40 jars taken back", STATE, () -> Scene.run(full, "rally 0;rally 1;rally 0"));
         Check.due("40 the jars", 6, () -> full.jarsOf(0) + full.jarsOf(1));
         Check.due("40 routed again", true, () -> full.isRouted(0));
     }
@@ -932,20 +870,20 @@ public final class PromiseTest {
         Check.thrown("43 no more", STATE, b::undo);
         b.turn();
         Check.due("43 again", 0, b::undo);
-        LineBattle rout = rout();
+        LineBattle rout = Scene.rout();
         rout.rally(0);
         rout.undo();
         Check.due("43 rally: morale", 4, () -> rout.moraleOf(0));
         Check.due("43 rally: jar", 3, () -> rout.jarsOf(0));
         rout.undo();
-        Check.due("43 turn: lane", "....nC....", () -> lane(rout, 0));
+        Check.due("43 turn: lane", "....nC....", () -> Scene.lane(rout, 0));
         Check.due("43 turn: fights", 0, rout::fightCount);
         Check.due("43 turn: strength", 60, () -> rout.strengthOf(0));
-        turns(rout, 3);
+        Scene.turns(rout, 3);
         Check.due("43 anew: routed turns", 2, () -> rout.routedTurns(0));
         rout.undo();
         Check.due("43 routed turns", 1, () -> rout.routedTurns(0));
-        LineBattle order = meeting();
+        LineBattle order = Scene.meeting();
         order.turn();
         order.undo();
         Check.due("43 back in the first cell", 0, () -> order.lineIn(0, 0));
@@ -974,7 +912,7 @@ public final class PromiseTest {
     private static void bufferStays() {
         LineBattle b = new LineBattle();
         b.turn();
-        type(b, "tur");
+        Scene.type(b, "tur");
         b.undo();
         b.save();
         b.restore();
@@ -991,17 +929,17 @@ public final class PromiseTest {
         Check.due("45 empty", 0, b::restore);
         Check.thrown("45 nothing to undo", STATE, b::undo);
         Check.due("45 lines", 0, b::lineCount);
-        LineBattle c = rout();
+        LineBattle c = Scene.rout();
         Check.due("44 lines", 2, c::save);
         Check.due("44 no modification", 7, () -> {
             c.addLine(0, 0, 'p', 1);
             return c.undo();
         });
-        turns(c, 2);
+        Scene.turns(c, 2);
         c.addLine(1, 2, 's', 1);
         c.rally(0);
         Check.due("45 lines afterwards", 2, c::restore);
-        Check.due("45 lane", "....n!C!....", () -> lane(c, 0));
+        Check.due("45 lane", "....n!C!....", () -> Scene.lane(c, 0));
         Check.due("45 turns", 5, c::turnCount);
         Check.due("45 fights", 2, c::fightCount);
         Check.due("45 jars", 6, () -> c.jarsOf(0) + c.jarsOf(1));
@@ -1010,7 +948,7 @@ public final class PromiseTest {
         Check.due("45 turns again", 5, c::turnCount);
         c.turn();
         Check.due("44 replaced", 2, c::save);
-        turns(c, 2);
+        Scene.turns(c, 2);
         c.restore();
         Check.due("45 the later snapshot", 6, c::turnCount);
         c.turn();
