@@ -1,14 +1,22 @@
+import java.io.IOException;
 import java.lang.reflect.Constructor;
 import java.lang.reflect.Field;
 import java.lang.reflect.Method;
 import java.lang.reflect.Modifier;
+import java.nio.file.Files;
+import java.nio.file.Path;
 import java.util.ArrayList;
 import java.util.Arrays;
 import java.util.List;
 import java.util.TreeSet;
+import java.util.regex.Matcher;
+import java.util.regex.Pattern;
 
 /** The class has the document's face and no other member that is not private. */
 public final class FaceTest {
+    private static final Path DOCUMENT = Path.of("..", "shared", "DOC.md");
+    private static final Pattern METHOD =
+        Pattern.compile("\n    public (\\w+ \\w+)\\((.*?)\\)(?: throws (.*?))?;");
     private static final String LINE = " IndexOutOfBoundsException";
     private static final String NONE = " NoSuchElementException";
     private static final String SIDE = " IllegalArgumentException";
@@ -34,15 +42,22 @@ public final class FaceTest {
     private FaceTest() {
     }
 
-    public static void main(String[] args) {
+    public static void main(String[] args) throws IOException {
+        if (Files.exists(DOCUMENT)) {
+            String document = Files.readString(DOCUMENT);
+            Check.due("the document's face", new TreeSet<>(Arrays.asList(FACE)), () -> documented(document));
+        }
         Class<?> face = LineBattle.class;
         Check.due("public and final", Modifier.PUBLIC | Modifier.FINAL, face::getModifiers);
+        Check.due("superclass", Object.class, face::getSuperclass);
+        Check.due("interfaces", 0, () -> face.getInterfaces().length);
         Check.due("constructors", "[public LineBattle()]", () -> constructors(face));
         List<String> members = new ArrayList<>();
         TreeSet<String> publicNames = new TreeSet<>();
         for (Method m : face.getDeclaredMethods()) {
             if (!m.isSynthetic() && !Modifier.isPrivate(m.getModifiers())) {
                 members.add(described(m));
+                Check.due(m + " is public and nothing else", Modifier.PUBLIC, m::getModifiers);
                 publicNames.add(m.getName());
             }
         }
@@ -70,6 +85,18 @@ public final class FaceTest {
             Check.due(f + " is final, if static", true,
                 () -> !Modifier.isStatic(modifiers) || Modifier.isFinal(modifiers));
         }
+    }
+
+    /** The methods of the document's face, as FACE has them. */
+    private static TreeSet<String> documented(String document) {
+        TreeSet<String> methods = new TreeSet<>();
+        Matcher method = METHOD.matcher(document);
+        while (method.find()) {
+            String types = method.group(2).replaceAll(" \\w+(, |$)", "$1").replace(", ", ",");
+            String thrown = method.group(3) == null ? "" : " " + method.group(3).replace(",", "");
+            methods.add(method.group(1) + "(" + types + ")" + thrown);
+        }
+        return methods;
     }
 
     private static String constructors(Class<?> face) {
